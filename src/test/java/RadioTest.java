@@ -12,6 +12,7 @@ public final class RadioTest {
         passSendsAgainFiveMinutesLater();
         passSendsTheLongestDueFirst();
         passWithoutBattery();
+        passWithOneLessThanEnough();
         passRefuses();
         time();
         order();
@@ -208,6 +209,20 @@ public final class RadioTest {
         shop.charge(0);
         shop.pass(5);
         Check.due("answered with a new battery", shop.orders(), 0);
+    }
+
+    private static void passWithOneLessThanEnough() {
+        GlassLabels shop = shopWith(1);
+        for (int i = 0; i < 4; i++) {
+            shop.pass(200);
+        }
+        shop.pass(181);
+        Check.due("19 is left", shop.battery(0), 19);
+        shop.setPrice(0, 1111);
+        Check.due("sent", shop.pass(1), 1);
+        Check.due("19 is not enough", shop.shown(0), 0);
+        Check.due("no answer", shop.orders(), 1);
+        Check.due("only the minute costs", shop.battery(0), 18);
     }
 
     private static void passRefuses() {
