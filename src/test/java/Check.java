@@ -21,6 +21,12 @@ final class Check {
         }
     }
 
+    static void due(String call, String got, String want) {
+        if (!got.equals(want)) {
+            fail(call + " answered " + got + ", due is " + want);
+        }
+    }
+
     static void noSuch(String call, Call made) {
         thrown(call, made, IndexOutOfBoundsException.class);
     }
@@ -34,7 +40,7 @@ final class Check {
     }
 
     // The class is compared exactly: what the machine throws by itself is often a class below the one that is due.
-    private static void thrown(String call, Call made, Class<?> want) {
+    static void thrown(String call, Call made, Class<?> want) {
         Class<?> got = null;
         try {
             made.run();

@@ -5,11 +5,18 @@ import java.util.Random;
 
 /**
  * Long runs of calls, drawn by fixed seeds, on the class and on a slow model that writes down all that was ever
- * shown and holds the radio's orders in one list; all that can be asked is compared after each call.
+ * shown and holds the radio's orders in one list. After each call two questions are drawn and compared, at a run's
+ * end all of them: nothing is promised of an object after its 512th call, so that not all can be asked each time.
  */
 public final class ModelTest {
-    private static final int RUNS = 400;
-    private static final int CALLS = 150;
+    private static final int RUNS = 3000;
+    private static final int CALLS = 130;
+    private static final int QUESTIONS = 2;
+    private static final int SHOP_QUESTIONS = 4;
+    private static final int LABEL_QUESTIONS = 4;
+    private static final int WARE_QUESTIONS = 3;
+    private static final int LABELS = 12;
+    private static final int WARES = 12;
 
     private record Order(int number, int label, int price, int due) {
     }
@@ -143,6 +150,18 @@ public final class ModelTest {
             return least;
         }
 
+        int order(int label) {
+            return orders.stream().filter(order -> order.label == label).mapToInt(Order::number).findFirst().orElse(-1);
+        }
+
+        int lies() {
+            int lies = 0;
+            for (int label = 0; label < labels.size(); label++) {
+                lies += labels.get(label).shown() < prices[labels.get(label).ware] ? 1 << label : 0;
+            }
+            return lies;
+        }
+
         static String digits(int price) {
             return String.format("%04d", price);
         }
@@ -163,38 +182,61 @@ public final class ModelTest {
         int wares = 1 + random.nextInt(12);
         int prices = random.nextBoolean() ? 4 : 10000;
         int longest = random.nextBoolean() ? 8 : 200;
+        // With two questions after each of the 130 calls, and all 88 at the end, that makes 478 calls of one object.
         for (int call = 0; call < CALLS; call++) {
             String at = "run " + run + ", call " + call + ": ";
             int ware = random.nextInt(wares);
-            int label = random.nextInt(12);
-            boolean hangs = label < model.labels.size();
-            int kind = random.nextInt(12);
+            int label = random.nextInt(LABELS);
+            int kind = random.nextInt(13);
             if (kind < 3) {
-                int price = random.nextInt(prices);
-                Check.due(at + "setPrice", shop.setPrice(ware, price), model.setPrice(ware, price));
+                setPrice(at, shop, model, ware, random.nextInt(prices));
             } else if (kind == 3) {
-                if (model.labels.size() < 12) {
-                    Check.due(at + "hang", shop.hang(ware), model.hang(ware));
-                } else {
-                    Check.notNow(at + "hang", () -> shop.hang(ware));
-                }
+                hang(at, shop, model, ware);
             } else if (kind < 6) {
                 carry(at, shop, model, label, ware);
             } else if (kind < 9) {
-                int minutes = 1 + random.nextInt(longest);
-                if (model.time + minutes <= 10000) {
-                    Check.due(at + "pass", shop.pass(minutes), model.pass(minutes));
-                } else {
-                    Check.notNow(at + "pass", () -> shop.pass(minutes));
-                }
-            } else if (!hangs) {
-                Check.noSuch(at + "charge", () -> shop.charge(label));
-                Check.noSuch(at + "loseSendings", () -> shop.loseSendings(label, 0));
-                Check.noSuch(at + "loseAnswers", () -> shop.loseAnswers(label, 0));
+                pass(at, shop, model, 1 + random.nextInt(longest));
+            } else if (kind == 9) {
+                refused(at, shop, random);
             } else {
-                tellLabel(at, shop, model.labels.get(label), label, kind, random.nextInt(1 + random.nextInt(21)));
+                tellLabel(at, shop, model, label, kind, random.nextInt(1 + random.nextInt(21)));
             }
-            compare(at, shop, model);
+            for (int question = 0; question < QUESTIONS; question++) {
+                compareSome(at, shop, model, random);
+            }
+        }
+        compareAll("run " + run + ", at its end: ", shop, model);
+    }
+
+    private static void setPrice(String at, GlassLabels shop, Model model, int ware, int price) {
+        Check.due(at + "setPrice", shop.setPrice(ware, price), model.setPrice(ware, price));
+    }
+
+    private static void hang(String at, GlassLabels shop, Model model, int ware) {
+        if (model.labels.size() < LABELS) {
+            Check.due(at + "hang", shop.hang(ware), model.hang(ware));
+        } else {
+            Check.notNow(at + "hang", () -> shop.hang(ware));
+        }
+    }
+
+    private static void pass(String at, GlassLabels shop, Model model, int minutes) {
+        if (model.time + minutes <= 10000) {
+            Check.due(at + "pass", shop.pass(minutes), model.pass(minutes));
+        } else {
+            Check.notNow(at + "pass", () -> shop.pass(minutes));
+        }
+    }
+
+    private static void refused(String at, GlassLabels shop, Random random) {
+        int beside = random.nextBoolean() ? -1 - random.nextInt(3) : 12 + random.nextInt(3);
+        switch (random.nextInt(6)) {
+            case 0 -> Check.noSuch(at + "setPrice " + beside, () -> shop.setPrice(beside, -1));
+            case 1 -> Check.outOfRange(at + "setPrice", () -> shop.setPrice(0, beside < 0 ? beside : beside + 9988));
+            case 2 -> Check.noSuch(at + "hang " + beside, () -> shop.hang(beside));
+            case 3 -> Check.noSuch(at + "carry " + beside, () -> shop.carry(beside, 0));
+            case 4 -> Check.noSuch(at + "loseSendings " + beside, () -> shop.loseSendings(beside, 21));
+            default -> Check.outOfRange(at + "pass", () -> shop.pass(beside < 0 ? beside + 1 : beside + 189));
         }
     }
 
@@ -208,11 +250,16 @@ public final class ModelTest {
         }
     }
 
-    private static void tellLabel(String at, GlassLabels shop, ModelLabel label, int number, int kind, int count) {
-        if (kind == 9) {
+    private static void tellLabel(String at, GlassLabels shop, Model model, int number, int kind, int count) {
+        if (number >= model.labels.size()) {
+            Check.noSuch(at + "a call of no label", () -> refusedOfLabel(shop, number, kind, count));
+            return;
+        }
+        ModelLabel label = model.labels.get(number);
+        if (kind == 10) {
             Check.due(at + "charge", shop.charge(number), label.battery);
             label.battery = 1000;
-        } else if (kind == 10) {
+        } else if (kind == 11) {
             Check.due(at + "loseSendings", shop.loseSendings(number, count), label.sendingsToLose);
             label.sendingsToLose = count;
         } else {
@@ -221,28 +268,73 @@ public final class ModelTest {
         }
     }
 
-    private static void compare(String at, GlassLabels shop, Model model) {
-        Check.due(at + "time", shop.time(), model.time);
-        Check.due(at + "orders", shop.orders(), model.orders.size());
-        Order next = model.next();
-        Check.due(at + "nextToSend", shop.nextToSend(), next == null ? -1 : next.label);
-        int lies = 0;
-        for (int l = 0; l < model.labels.size(); l++) {
-            int label = l;
-            ModelLabel due = model.labels.get(label);
-            int order = model.orders.stream().filter(o -> o.label == label).mapToInt(Order::number).findFirst().orElse(-1);
-            Check.due(at + "order " + label, shop.order(label), order);
-            Check.due(at + "shown " + label, shop.shown(label), due.shown());
-            Check.due(at + "ghosts " + label, shop.ghosts(label), due.ghosts);
-            Check.due(at + "battery " + label, shop.battery(label), due.battery);
-            lies += due.shown() < model.prices[due.ware] ? 1 << label : 0;
+    private static int refusedOfLabel(GlassLabels shop, int number, int kind, int count) {
+        if (kind == 10) {
+            return shop.charge(number);
         }
-        Check.due(at + "lies", shop.lies(), lies);
-        for (int ware = 0; ware < 12; ware++) {
-            Check.due(at + "price " + ware, shop.price(ware), model.prices[ware]);
-            Check.due(at + "asked " + ware, shop.asked(ware), model.least(ware, model.time - 60, model.prices[ware]));
-            int least = model.least(ware, 0, Integer.MAX_VALUE);
-            Check.due(at + "leastEver " + ware, shop.leastEver(ware), least == Integer.MAX_VALUE ? -1 : least);
+        return kind == 11 ? shop.loseSendings(number, count) : shop.loseAnswers(number, count);
+    }
+
+    private static void compareSome(String at, GlassLabels shop, Model model, Random random) {
+        int kind = random.nextInt(SHOP_QUESTIONS + LABEL_QUESTIONS + WARE_QUESTIONS);
+        if (kind < SHOP_QUESTIONS) {
+            compareShop(at, shop, model, kind);
+        } else if (kind >= SHOP_QUESTIONS + LABEL_QUESTIONS) {
+            compareWare(at, shop, model, random.nextInt(WARES), kind - SHOP_QUESTIONS - LABEL_QUESTIONS);
+        } else if (model.labels.isEmpty()) {
+            Check.noSuch(at + "shown", () -> shop.shown(0));
+        } else {
+            compareLabel(at, shop, model, random.nextInt(model.labels.size()), kind - SHOP_QUESTIONS);
+        }
+    }
+
+    private static void compareAll(String at, GlassLabels shop, Model model) {
+        for (int kind = 0; kind < SHOP_QUESTIONS; kind++) {
+            compareShop(at, shop, model, kind);
+        }
+        for (int label = 0; label < model.labels.size(); label++) {
+            for (int kind = 0; kind < LABEL_QUESTIONS; kind++) {
+                compareLabel(at, shop, model, label, kind);
+            }
+        }
+        for (int ware = 0; ware < WARES; ware++) {
+            for (int kind = 0; kind < WARE_QUESTIONS; kind++) {
+                compareWare(at, shop, model, ware, kind);
+            }
+        }
+    }
+
+    private static void compareShop(String at, GlassLabels shop, Model model, int kind) {
+        switch (kind) {
+            case 0 -> Check.due(at + "time", shop.time(), model.time);
+            case 1 -> Check.due(at + "orders", shop.orders(), model.orders.size());
+            case 2 -> Check.due(at + "lies", shop.lies(), model.lies());
+            default -> {
+                Order next = model.next();
+                Check.due(at + "nextToSend", shop.nextToSend(), next == null ? -1 : next.label);
+            }
+        }
+    }
+
+    private static void compareLabel(String at, GlassLabels shop, Model model, int label, int kind) {
+        ModelLabel due = model.labels.get(label);
+        switch (kind) {
+            case 0 -> Check.due(at + "order " + label, shop.order(label), model.order(label));
+            case 1 -> Check.due(at + "shown " + label, shop.shown(label), due.shown());
+            case 2 -> Check.due(at + "ghosts " + label, shop.ghosts(label), due.ghosts);
+            default -> Check.due(at + "battery " + label, shop.battery(label), due.battery);
+        }
+    }
+
+    private static void compareWare(String at, GlassLabels shop, Model model, int ware, int kind) {
+        int price = model.prices[ware];
+        switch (kind) {
+            case 0 -> Check.due(at + "price " + ware, shop.price(ware), price);
+            case 1 -> Check.due(at + "asked " + ware, shop.asked(ware), model.least(ware, model.time - 60, price));
+            default -> {
+                int least = model.least(ware, 0, Integer.MAX_VALUE);
+                Check.due(at + "leastEver " + ware, shop.leastEver(ware), least == Integer.MAX_VALUE ? -1 : least);
+            }
         }
     }
 }

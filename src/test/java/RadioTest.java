@@ -21,16 +21,8 @@ public final class RadioTest {
         Check.end();
     }
 
-    private static GlassLabels shopWith(int labels) {
-        GlassLabels shop = new GlassLabels();
-        for (int label = 0; label < labels; label++) {
-            shop.hang(0);
-        }
-        return shop;
-    }
-
     private static void loseSendings() {
-        GlassLabels shop = shopWith(2);
+        GlassLabels shop = Shops.withLabels(2);
         Check.due("nothing told before", shop.loseSendings(0, 20), 0);
         Check.due("told before", shop.loseSendings(0, 2), 20);
         shop.setPrice(0, 1234);
@@ -52,7 +44,7 @@ public final class RadioTest {
     }
 
     private static void loseSendingsWithAnEmptyBattery() {
-        GlassLabels shop = shopWith(1);
+        GlassLabels shop = Shops.withLabels(1);
         for (int i = 0; i < 5; i++) {
             shop.pass(200);
         }
@@ -63,7 +55,7 @@ public final class RadioTest {
     }
 
     private static void loseSendingsRefuses() {
-        GlassLabels shop = shopWith(1);
+        GlassLabels shop = Shops.withLabels(1);
         shop.loseSendings(0, 4);
         for (int count : new int[] {-1, 21, Integer.MIN_VALUE, Integer.MAX_VALUE}) {
             Check.outOfRange("loseSendings(0, " + count + ")", () -> shop.loseSendings(0, count));
@@ -75,7 +67,7 @@ public final class RadioTest {
     }
 
     private static void loseAnswers() {
-        GlassLabels shop = shopWith(1);
+        GlassLabels shop = Shops.withLabels(1);
         Check.due("nothing told before", shop.loseAnswers(0, 20), 0);
         Check.due("told before", shop.loseAnswers(0, 2), 20);
         shop.setPrice(0, 9);
@@ -93,7 +85,7 @@ public final class RadioTest {
     }
 
     private static void loseAnswersOnlyOfAnswersThatAreGiven() {
-        GlassLabels shop = shopWith(1);
+        GlassLabels shop = Shops.withLabels(1);
         shop.loseSendings(0, 1);
         shop.loseAnswers(0, 5);
         shop.setPrice(0, 9);
@@ -112,7 +104,7 @@ public final class RadioTest {
     }
 
     private static void loseAnswersRefuses() {
-        GlassLabels shop = shopWith(1);
+        GlassLabels shop = Shops.withLabels(1);
         shop.loseAnswers(0, 4);
         for (int count : new int[] {-1, 21, Integer.MIN_VALUE, Integer.MAX_VALUE}) {
             Check.outOfRange("loseAnswers(0, " + count + ")", () -> shop.loseAnswers(0, count));
@@ -124,7 +116,7 @@ public final class RadioTest {
     }
 
     private static void passCountsEachSending() {
-        GlassLabels shop = shopWith(1);
+        GlassLabels shop = Shops.withLabels(1);
         Check.due("nothing to send", shop.pass(200), 0);
         shop.loseSendings(0, 20);
         shop.setPrice(0, 1);
@@ -135,7 +127,7 @@ public final class RadioTest {
     }
 
     private static void passHasTwoSlotsAMinute() {
-        GlassLabels shop = shopWith(5);
+        GlassLabels shop = Shops.withLabels(5);
         shop.setPrice(0, 1);
         Check.due("two", shop.pass(1), 2);
         Check.due("label 1", shop.shown(1), 1);
@@ -146,7 +138,7 @@ public final class RadioTest {
     }
 
     private static void passSendsAgainFiveMinutesLater() {
-        GlassLabels shop = shopWith(1);
+        GlassLabels shop = Shops.withLabels(1);
         shop.pass(10);
         shop.loseSendings(0, 1);
         shop.setPrice(0, 1);
@@ -158,7 +150,7 @@ public final class RadioTest {
     }
 
     private static void passSendsTheLongestDueFirst() {
-        GlassLabels shop = shopWith(3);
+        GlassLabels shop = Shops.withLabels(3);
         shop.hang(1);
         shop.loseSendings(0, 20);
         shop.loseSendings(1, 20);
@@ -187,7 +179,7 @@ public final class RadioTest {
     }
 
     private static void passWithoutBattery() {
-        GlassLabels shop = shopWith(1);
+        GlassLabels shop = Shops.withLabels(1);
         for (int i = 0; i < 4; i++) {
             shop.pass(200);
         }
@@ -212,7 +204,7 @@ public final class RadioTest {
     }
 
     private static void passWithOneLessThanEnough() {
-        GlassLabels shop = shopWith(1);
+        GlassLabels shop = Shops.withLabels(1);
         for (int i = 0; i < 4; i++) {
             shop.pass(200);
         }
@@ -226,7 +218,7 @@ public final class RadioTest {
     }
 
     private static void passRefuses() {
-        GlassLabels shop = shopWith(1);
+        GlassLabels shop = Shops.withLabels(1);
         for (int minutes : new int[] {0, -1, 201, Integer.MIN_VALUE, Integer.MAX_VALUE}) {
             Check.outOfRange("pass(" + minutes + ")", () -> shop.pass(minutes));
         }
@@ -257,7 +249,7 @@ public final class RadioTest {
     }
 
     private static void order() {
-        GlassLabels shop = shopWith(2);
+        GlassLabels shop = Shops.withLabels(2);
         Check.due("no order", shop.order(1), GlassLabels.NONE);
         shop.setPrice(0, 1);
         Check.due("order(0)", shop.order(0), 1);
@@ -272,7 +264,7 @@ public final class RadioTest {
     }
 
     private static void orders() {
-        GlassLabels shop = shopWith(12);
+        GlassLabels shop = Shops.withLabels(12);
         shop.setPrice(0, 1);
         Check.due("all twelve", shop.orders(), 12);
         shop.loseSendings(0, 1);
@@ -283,7 +275,7 @@ public final class RadioTest {
     }
 
     private static void nextToSend() {
-        GlassLabels shop = shopWith(3);
+        GlassLabels shop = Shops.withLabels(3);
         Check.due("no order", shop.nextToSend(), GlassLabels.NONE);
         shop.setPrice(0, 1);
         Check.due("the lowest number", shop.nextToSend(), 0);

@@ -18,21 +18,8 @@ public final class ShownTest {
         Check.end();
     }
 
-    /** A shop with one label, for the ware 0, that shows the price. */
-    private static GlassLabels showing(int price) {
-        GlassLabels shop = new GlassLabels();
-        shop.setPrice(0, price);
-        shop.hang(0);
-        return shop;
-    }
-
-    private static void change(GlassLabels shop, int price) {
-        shop.setPrice(0, price);
-        shop.pass(1);
-    }
-
     private static void shown() {
-        GlassLabels shop = showing(9999);
+        GlassLabels shop = Shops.showing(9999);
         Check.due("at first", shop.shown(0), 9999);
         shop.setPrice(0, 0);
         Check.due("until it is sent", shop.shown(0), 9999);
@@ -44,10 +31,10 @@ public final class ShownTest {
         int[] prices = {1234, 1235, 1245, 1345, 2345, 9349, 9249, 1111};
         int[] ghosts = {0, 1, 2, 3, 4, 6, 7, 0};
         int[] costs = {0, 10, 10, 10, 10, 10, 10, 20};
-        GlassLabels shop = showing(prices[0]);
+        GlassLabels shop = Shops.showing(prices[0]);
         for (int i = 1; i < prices.length; i++) {
             int before = shop.battery(0);
-            change(shop, prices[i]);
+            Shops.change(shop, prices[i]);
             Check.due("ghosts after " + prices[i], shop.ghosts(0), ghosts[i]);
             Check.due("cost of " + prices[i], before - shop.battery(0), costs[i] + 1);
             Check.due("shown " + prices[i], shop.shown(0), prices[i]);
@@ -55,33 +42,33 @@ public final class ShownTest {
     }
 
     private static void ghostsUpToNine() {
-        GlassLabels shop = showing(0);
+        GlassLabels shop = Shops.showing(0);
         for (int i = 1; i <= 9; i++) {
-            change(shop, i);
+            Shops.change(shop, i);
             Check.due("ghosts after " + i, shop.ghosts(0), i);
         }
-        change(shop, 8);
+        Shops.change(shop, 8);
         Check.due("a tenth: redrawn wholly", shop.ghosts(0), 0);
         Check.due("9 parts, one whole, 10 minutes", shop.battery(0), 1000 - 90 - 20 - 10);
     }
 
     private static void ghostsWithZerosAhead() {
-        GlassLabels shop = showing(5);
-        change(shop, 105);
+        GlassLabels shop = Shops.showing(5);
+        Shops.change(shop, 105);
         Check.due("one digit", shop.ghosts(0), 1);
-        change(shop, 5);
+        Shops.change(shop, 5);
         Check.due("and back", shop.ghosts(0), 2);
-        change(shop, 5000);
+        Shops.change(shop, 5000);
         Check.due("two digits", shop.ghosts(0), 4);
-        change(shop, 0);
+        Shops.change(shop, 0);
         Check.due("one digit", shop.ghosts(0), 5);
     }
 
     private static void battery() {
-        GlassLabels shop = showing(0);
+        GlassLabels shop = Shops.showing(0);
         shop.pass(200);
         Check.due("1 a minute", shop.battery(0), 800);
-        change(shop, 1);
+        Shops.change(shop, 1);
         Check.due("10 for a part", shop.battery(0), 789);
         shop.hang(0);
         Check.due("a new label", shop.battery(1), 1000);
@@ -91,22 +78,22 @@ public final class ShownTest {
         Check.due("none is left", shop.battery(0), 0);
         Check.due("of the other", shop.battery(1), 200);
 
-        GlassLabels last = showing(0);
+        GlassLabels last = Shops.showing(0);
         for (int i = 1; i <= 9; i++) {
-            change(last, i);
+            Shops.change(last, i);
         }
         for (int i = 0; i < 8; i++) {
             last.pass(110);
         }
         last.pass(1);
         Check.due("20 is left", last.battery(0), 20);
-        change(last, 1);
+        Shops.change(last, 1);
         Check.due("a whole redraw takes all, listening nothing", last.battery(0), 0);
         Check.due("it is shown", last.shown(0), 1);
     }
 
     private static void refusals() {
-        GlassLabels shop = showing(3);
+        GlassLabels shop = Shops.showing(3);
         for (int label : new int[] {-1, 1, 11, 12, 13, Integer.MIN_VALUE, Integer.MAX_VALUE}) {
             Check.noSuch("shown(" + label + ")", () -> shop.shown(label));
             Check.noSuch("ghosts(" + label + ")", () -> shop.ghosts(label));
@@ -119,7 +106,7 @@ public final class ShownTest {
     }
 
     private static void lies() {
-        GlassLabels shop = showing(100);
+        GlassLabels shop = Shops.showing(100);
         shop.hang(1);
         shop.hang(0);
         Check.due("none", shop.lies(), 0);
@@ -166,9 +153,9 @@ public final class ShownTest {
     }
 
     private static void askedForAnHour() {
-        GlassLabels shop = showing(50);
+        GlassLabels shop = Shops.showing(50);
         shop.pass(100);
-        change(shop, 80);
+        Shops.change(shop, 80);
         // 50 was shown last at the end of the minute that made the time 100.
         Check.due("at 101", shop.asked(0), 50);
         shop.pass(58);
@@ -176,10 +163,10 @@ public final class ShownTest {
         shop.pass(1);
         Check.due("at 160", shop.asked(0), 80);
 
-        GlassLabels falling = showing(30);
+        GlassLabels falling = Shops.showing(30);
         falling.pass(1);
-        change(falling, 40);
-        change(falling, 50);
+        Shops.change(falling, 40);
+        Shops.change(falling, 50);
         falling.pass(57);
         Check.due("at 60: since 1", falling.asked(0), 30);
         falling.pass(1);
@@ -191,8 +178,8 @@ public final class ShownTest {
     }
 
     private static void askedCountsEndsOfMinutes() {
-        GlassLabels shop = showing(50);
-        change(shop, 80);
+        GlassLabels shop = Shops.showing(50);
+        Shops.change(shop, 80);
         Check.due("50 was shown at no end of a minute", shop.asked(0), 80);
         shop.setPrice(0, 10);
         shop.setPrice(0, 90);
@@ -200,7 +187,7 @@ public final class ShownTest {
     }
 
     private static void askedStaysWithTheWare() {
-        GlassLabels shop = showing(20);
+        GlassLabels shop = Shops.showing(20);
         shop.pass(1);
         shop.setPrice(1, 60);
         shop.setPrice(0, 70);
@@ -223,9 +210,9 @@ public final class ShownTest {
         Check.due("a price alone does not count", shop.leastEver(0), GlassLabels.NONE);
         shop.hang(0);
         Check.due("what is shown now", shop.leastEver(0), 9999);
-        change(shop, 40);
-        change(shop, 30);
-        change(shop, 50);
+        Shops.change(shop, 40);
+        Shops.change(shop, 30);
+        Shops.change(shop, 50);
         shop.pass(200);
         Check.due("also more than an hour ago", shop.leastEver(0), 30);
         shop.carry(0, 1);
@@ -237,7 +224,7 @@ public final class ShownTest {
     }
 
     private static void leastEverCountsEndsOfMinutes() {
-        GlassLabels shop = showing(20);
+        GlassLabels shop = Shops.showing(20);
         shop.setPrice(1, 20);
         shop.carry(0, 1);
         Check.due("shown at no end of a minute", shop.leastEver(0), GlassLabels.NONE);
